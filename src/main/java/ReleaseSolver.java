@@ -71,9 +71,6 @@ public final class ReleaseSolver {
         if (plugins[plugin].hasVersion(version)) {
             return TWICE;
         }
-        if (plugins[plugin].size() >= MOST_RELEASES) {
-            return FULL;
-        }
         return plugins[plugin].add(new Release(version));
     }
 
@@ -178,13 +175,13 @@ public final class ReleaseSolver {
         search.prepare(plugins, hostVersion, asks);
         int everyAsk = (1 << asks.size()) - 1;
         solved = search.finds(everyAsk);
-        if (!solved) {
-            Arrays.fill(selection, NONE);
-            blame = blameAmong(everyAsk);
-            return NONE;
+        if (solved) {
+            blame = 0;
+            return keepSelection();
         }
-        blame = 0;
-        return keepSelection();
+        Arrays.fill(selection, NONE);
+        blame = blameAmong(everyAsk);
+        return NONE;
     }
 
     public int chosen(int plugin) {
@@ -590,7 +587,7 @@ public final class ReleaseSolver {
             return false;
         }
 
-        /** Takes a release in if there is room, and answers its number. */
+        /** Takes a release in and answers its number; FULL if there is no room. */
         int add(Release added) {
             int number = releases.size();
             if (number >= MOST_RELEASES) {
@@ -733,7 +730,7 @@ public final class ReleaseSolver {
             }
         }
 
-        /** Both ways round, so that it does not matter which of the two plugins is settled first. */
+        /** Both ways round, so that whichever plugin is settled first, the other one's options dwindle at once. */
         private void keepOnly(int plugin, int option, int other, int fitting) {
             beside[row(plugin, option)][other] &= fitting;
             for (int i = 0; i < OPTIONS; i++) {
@@ -798,7 +795,11 @@ public final class ReleaseSolver {
         private boolean allMayBeLedTo(int[] options) {
             int led = asked;
             for (int step = 1; step < PLUGINS; step++) {
-                led |= leadsFrom(led, options);
+                int more = led | leadsFrom(led, options);
+                if (more == led) {
+                    break;
+                }
+                led = more;
             }
             for (int plugin = 0; plugin < PLUGINS; plugin++) {
                 if (!hasBit(options[plugin], NOTHING) && !hasBit(led, plugin)) {

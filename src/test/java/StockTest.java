@@ -150,6 +150,8 @@ public final class StockTest {
         }
         CHECKS.due("no such release", solver.withdraw(4, 2, true), ReleaseSolver.REFUSED);
         CHECKS.due("none was withdrawn", solver.count(3), 0);
+        CHECKS.due("withdraw the first one", solver.withdraw(4, 0, true), 0);
+        CHECKS.due("the first one is withdrawn", solver.count(3), 1);
         CHECKS.due("the text is left", solver.count(0), 1);
     }
 

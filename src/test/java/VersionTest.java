@@ -100,7 +100,7 @@ public final class VersionTest {
 
     private static void comparing() {
         String[] rising = {"alpha", "1-alpha", "1-beta", "1-beta1", "1b2", "1-milestone", "1m1", "1-rc", "1-cr1", "1rc2",
-            "1-snapshot", "1", "1-sp", "1-a", "1-aa", "1-ab", "1-b", "1-zz", "1-zzz", "1.1-alpha", "1.1", "1.1.0.1", "1.2",
+            "1-snapshot", "1", "1-sp", "1-a", "1-aa", "1-ab", "1-az", "1-b", "1-zz", "1-zzz", "1.1-alpha", "1.1", "1.1.0.1", "1.2",
             "1.10", "1.999999999", "2-rc", "2", "10", "10.x", "10.1"};
         for (int i = 0; i < rising.length; i++) {
             for (int j = 0; j < rising.length; j++) {
